@@ -884,8 +884,9 @@ public final class SeenLand {
         }
 
         private void place(int cell, int kind) {
+            kinds[cell] = kind;
             ages[cell] = 0;
-            turnInto(cell, kind);
+            renewTop(cell);
         }
 
         private void turnInto(int cell, int kind) {

@@ -249,5 +249,9 @@ public final class CellsTest {
         x.set(2, 1);
         due.is("drain(0)", x.drain(0), 1);
         due.is("height with 0", x.cellOf(2, 1), 2);
+        Due.read(x, "water 0 to 23");
+        due.is("all cells", x.drain(1), 24);
+        due.is("the first", x.cellOf(0, 0), 2);
+        due.is("the last", x.cellOf(23, 0), 2);
     }
 }

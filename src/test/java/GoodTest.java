@@ -86,6 +86,10 @@ public final class GoodTest {
         x.house(0, 1);
         due.is("a sea that both see", x.plant(3), 2);
         due.is("kind stays", x.cellOf(2, 0), 0);
+        x.set(2, 5);
+        due.is("now, not in a year", x.plant(0), 0);
+        x.years(1);
+        due.is("in that year", x.plant(0), 2);
         due.is("plant(7)", x.plant(7), Due.BEYOND);
         due.is("plant(-1)", x.plant(-1), Due.BEYOND);
     }
@@ -103,6 +107,7 @@ public final class GoodTest {
         due.is("two(7)", x.two(7), Due.BEYOND);
         due.is("two(-1)", x.two(-1), Due.BEYOND);
         due.is("no house", new SeenLand().two(6), 1);
+        due.is("not under the house", flatWithHouse(0, 1).two(4), 102);
     }
 
     private static void promise27() {

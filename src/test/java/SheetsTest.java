@@ -78,6 +78,12 @@ public final class SheetsTest {
         due.is("it is missing", x.load(3, 0), Due.MISSING);
         due.is("sheet(3, 0, 0)", x.sheet(3, 0, 0), 0);
         due.is("status(6)", x.status(6), 2);
+        x.sheet(1, 8, 1);
+        x.write(1, 0, 9);
+        x.sheet(0, 8, 40);
+        x.sheet(2, 8, 40);
+        x.load(1, 4);
+        due.is("another one stays", x.cellOf(4, 1), 9);
     }
 
     /** What a number of a sheet is, by the taxes that the reader finds: 1 land seen at each rate. */
@@ -230,6 +236,9 @@ public final class SheetsTest {
         x.sheet(2, 32, 1);
         x.copy(0, 0, 2, 0, 1);
         due.is("too few, right", x.judge(2, 1), 2);
+        x.windows(1, 0);
+        due.is("too few, though the other tax is 0", x.judge(2, 1), 2);
+        x.windows(1, 3);
         due.is("judge(4, 61)", x.judge(4, 61), Due.BEYOND);
         due.is("judge(-1, 0)", x.judge(-1, 0), Due.BEYOND);
         due.is("judge(3, 61)", x.judge(3, 61), Due.MISSING);

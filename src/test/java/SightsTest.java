@@ -123,6 +123,14 @@ public final class SightsTest {
         due.is("next to it", x.hidden(0, 11), Due.NONE);
         x.cell(8, 0, 1);
         due.is("to the west", x.hidden(0, 5), 8);
+        x.cell(7, 0, 5);
+        due.is("farther to the west", x.hidden(0, 6), 8);
+        x.cell(8, 0, 0);
+        due.is("by one at an odd place", x.hidden(0, 6), 7);
+        x.cell(9, 0, 40);
+        due.is("by the next one", x.hidden(0, 7), 9);
+        x.cell(9, 0, 0);
+        x.cell(8, 0, 1);
         due.is("its own", x.hidden(0, 10), Due.STATE);
         x.windows(0, 1);
         due.is("that window is walled", x.hidden(0, 20), Due.STATE);

@@ -9,6 +9,7 @@ public final class TaxesTest {
         promise20();
         promise21();
         promise22();
+        eightHouses();
         due.end();
     }
 
@@ -75,6 +76,9 @@ public final class TaxesTest {
         x.law(0, 1);
         due.is("in haze", x.widest(0), 1);
         x.law(0, 23);
+        x.cell(1, 0, 20);
+        x.cell(2, 0, 1);
+        due.is("the highest floor", x.widest(0), 40);
         x.cell(1, 0, 99);
         due.is("a hill too high", x.widest(0), 1);
         due.is("widest(1)", x.widest(1), Due.BEYOND);
@@ -119,5 +123,31 @@ public final class TaxesTest {
         x.house(11, 1);
         due.is("each is cut by itself", x.rateFor(41), 10);
         due.is("rate stays", x.law(1, 10), 10);
+    }
+
+    /** As many houses as there can be: no row is left by the last one. */
+    private static void eightHouses() {
+        due.begin("promises 18 to 29, with eight houses");
+        SeenLand x = new SeenLand();
+        for (int h = 0; h < 8; h++) {
+            x.house(3 * h, 1);
+            x.windows(h, 2);
+        }
+        int worth = 23 + 20 + 17 + 14 + 11 + 8 + 5 + 2;
+        due.is("all()", x.all(), worth);
+        due.is("rateFor()", x.rateFor(worth), 10);
+        due.is("seenBy(23)", x.seenBy(23), 255);
+        due.is("neighbours(0)", x.neighbours(0), 254);
+        due.is("gains(22, 4, 0)", x.gains(22, 4, 0), 255);
+        due.is("restless()", x.restless(), 0);
+        due.is("walk()", x.walk(), 1);
+        due.is("blind()", x.blind(), 0);
+        due.is("which(23, 0)", x.which(23, 0), 0);
+        due.is("which(23, 5)", x.which(23, 5), Due.NONE);
+        due.is("ahead(1, 8)", x.ahead(1, 8), 2);
+        due.is("ahead(1, 9)", x.ahead(1, 9), Due.BEYOND);
+        x.law(0, 1);
+        due.is("walk() in haze", x.walk(), 255);
+        due.is("count(3) in haze", x.count(3), 16);
     }
 }

@@ -68,6 +68,8 @@ public final class TextsTest {
         cellIs(x, 20, 6, 99, 99);
         cellIs(x, 21, 1, 0, 0);
         cellIs(x, 23, 6, 99, 99);
+        due.is("the last cell, an age of 0", Due.read(x, "sea 23 age 0"), 1);
+        cellIs(x, 23, 3, 99, 0);
         due.is("age alone", Due.read(x, "wood 22 age 7"), 1);
         cellIs(x, 22, 5, 99, 7);
         due.is("laws", Due.read(x, "haze 23;rate 0;haze 1;rate 99"), 4);
@@ -99,6 +101,8 @@ public final class TextsTest {
         due.is("a capital", Due.read(x, "Rate 5"), -1);
         due.is("a word that goes on", Due.read(x, "rates 5"), -1);
         due.is("a word cut short", Due.read(x, "rat 5"), -1);
+        due.is("a word with another begin", Due.read(x, "sand 5"), -1);
+        due.is("a word with another end", Due.read(x, "lane 5"), -1);
         due.is("a word with a capital within", Due.read(x, "ratE 5"), -1);
         due.is("a sign less than a", Due.read(x, "rate 5`"), -1 - 6);
         due.is("a sign above z", Due.read(x, "rate 5{"), -1 - 6);

@@ -66,6 +66,13 @@ public final class YearsTest {
         due.is("ahead(59, 0) at 940", x.ahead(59, 0), 23);
     }
 
+    /** An elm that is as high as the eye in 60 years, and hides what is behind it from then on. */
+    private static SeenLand byAnElm() {
+        SeenLand x = new SeenLand();
+        Due.read(x, "land 10 high 20;house 10 floor 40;elm 11;land 12 high 59");
+        return x;
+    }
+
     private static void promise35() {
         due.begin("promise 35");
         SeenLand x = byAWood();
@@ -90,6 +97,7 @@ public final class YearsTest {
         due.is("never at 939", x.lost(0, 9), Due.NONE);
         x.years(1);
         due.is("at 940", x.lost(0, 12), Due.STATE);
+        due.is("in 60 years", byAnElm().lost(0, 12), 60);
         due.is("beyond at 940", x.lost(0, 24), Due.BEYOND);
     }
 
@@ -102,6 +110,7 @@ public final class YearsTest {
         x.set(11, 0);
         x.set(10, 5);
         due.is("now, as the eye grows", x.when(0), 0);
+        due.is("in 60 years", byAnElm().when(0), 60);
         due.is("when(1)", x.when(1), Due.BEYOND);
         due.is("when(-1)", x.when(-1), Due.BEYOND);
         Due.goTo(x, 939);
