@@ -44,6 +44,12 @@ final class Due {
         }
     }
 
+    static SeenLand flatWithHouse(int cell, int floor) {
+        SeenLand x = new SeenLand();
+        x.house(cell, floor);
+        return x;
+    }
+
     static void feed(SeenLand x, String text) {
         for (int i = 0; i < text.length(); i++) {
             x.feed(text.charAt(i), 1);

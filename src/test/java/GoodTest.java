@@ -17,15 +17,9 @@ public final class GoodTest {
         due.end();
     }
 
-    private static SeenLand flatWithHouse(int cell, int floor) {
-        SeenLand x = new SeenLand();
-        x.house(cell, floor);
-        return x;
-    }
-
     private static void promise23() {
         due.begin("promise 23");
-        SeenLand x = flatWithHouse(10, 1);
+        SeenLand x = Due.flatWithHouse(10, 1);
         due.is("a roof", x.shade(0, 4, 0), 11);
         due.is("a wood now", x.shade(0, 5, 0), 0);
         due.is("a wood in a year", x.shade(0, 5, 1), 11);
@@ -96,7 +90,7 @@ public final class GoodTest {
 
     private static void promise26() {
         due.begin("promise 26");
-        SeenLand x = flatWithHouse(10, 1);
+        SeenLand x = Due.flatWithHouse(10, 1);
         due.is("roofs on both sides", x.two(4), 911);
         due.is("lands", x.two(0), 1);
         due.is("seas, one under the house", x.two(3), 10);
@@ -107,12 +101,12 @@ public final class GoodTest {
         due.is("two(7)", x.two(7), Due.BEYOND);
         due.is("two(-1)", x.two(-1), Due.BEYOND);
         due.is("no house", new SeenLand().two(6), 1);
-        due.is("not under the house", flatWithHouse(0, 1).two(4), 102);
+        due.is("not under the house", Due.flatWithHouse(0, 1).two(4), 102);
     }
 
     private static void promise27() {
         due.begin("promise 27");
-        SeenLand x = flatWithHouse(0, 21);
+        SeenLand x = Due.flatWithHouse(0, 21);
         x.cell(1, 0, 10);
         x.house(0, 1);
         x.house(0, 10);
@@ -158,7 +152,7 @@ public final class GoodTest {
 
     private static void promise30() {
         due.begin("promise 30");
-        SeenLand x = flatWithHouse(10, 1);
+        SeenLand x = Due.flatWithHouse(10, 1);
         x.cell(12, 0, 3);
         due.is("all is seen", x.heights(12, 0, 23), 1);
         due.is("it hides the rest", x.heights(12, 0, 12), 99);
@@ -177,7 +171,7 @@ public final class GoodTest {
 
     private static void promise31() {
         due.begin("promise 31");
-        SeenLand x = flatWithHouse(10, 1);
+        SeenLand x = Due.flatWithHouse(10, 1);
         due.is("least", x.height(12, 0, 12, 0), 1);
         due.is("greatest", x.height(12, 0, 12, 1), 99);
         due.is("the only one, least", x.height(12, 0, 23, 0), 0);

@@ -60,7 +60,7 @@ public final class SheetsTest {
         due.is("sheet(3, 32, 1)", x.sheet(3, 32, 1), 1);
         due.is("one of no numbers isn't missing", x.load(1, 0), 0);
         x.write(3, 0, 7);
-        due.is("sheet(4, 9, -1)", x.sheet(4, 8, -1), Due.BEYOND);
+        due.is("sheet(4, 8, -1)", x.sheet(4, 8, -1), Due.BEYOND);
         due.is("sheet(-1, 8, 1)", x.sheet(-1, 8, 1), Due.BEYOND);
         due.is("sheet(3, 9, -1)", x.sheet(3, 9, -1), Due.BEYOND);
         due.is("sheet(3, -8, 1)", x.sheet(3, -8, 1), Due.BEYOND);
@@ -86,10 +86,10 @@ public final class SheetsTest {
         due.is("another one stays", x.cellOf(4, 1), 9);
     }
 
-    /** What a number of a sheet is, by the taxes that the reader finds: 1 land seen at each rate. */
-    private static boolean isNumber(SeenLand x, int s, int want) {
+    /** With a rate of 0 and one house the reader finds a sheet right just if its one number is 0. */
+    private static boolean isZero(SeenLand x, int s) {
         x.law(1, 0);
-        return x.judge(s, 0) == (want == 0 ? 0 : 1);
+        return x.judge(s, 0) == 0;
     }
 
     private static void promise45() {
@@ -100,11 +100,11 @@ public final class SheetsTest {
         x.sheet(1, 16, 1);
         x.sheet(2, 32, 2);
         due.is("256 in 8 bits", x.write(0, 0, 256), 1);
-        due.holds("is 0", isNumber(x, 0, 0));
+        due.holds("is 0", isZero(x, 0));
         due.is("65536 in 16 bits", x.write(1, 0, 65536), 1);
-        due.holds("is 0, too", isNumber(x, 1, 0));
+        due.holds("is 0, too", isZero(x, 1));
         x.write(1, 0, 256);
-        due.holds("256 in 16 bits isn't", isNumber(x, 1, 256));
+        due.holds("256 in 16 bits isn't", !isZero(x, 1));
         x.write(0, 0, 0x7f0000 + 99);
         due.is("load, 8 bits", x.load(0, 5), 1);
         due.is("99 of 8 bits", x.cellOf(5, 1), 99);
@@ -123,7 +123,7 @@ public final class SheetsTest {
         wideTaxes();
     }
 
-    /** A tax of 200 is a number of 16 bits, but not one of 8. */
+    /** A tax of 198 is a number of 16 bits, but not one of 8. */
     private static void wideTaxes() {
         SeenLand x = new SeenLand();
         x.house(0, 1);

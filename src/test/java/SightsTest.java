@@ -13,15 +13,9 @@ public final class SightsTest {
         due.end();
     }
 
-    private static SeenLand flatWithHouse(int cell, int floor) {
-        SeenLand x = new SeenLand();
-        x.house(cell, floor);
-        return x;
-    }
-
     private static void promise12() {
         due.begin("promise 12");
-        SeenLand x = flatWithHouse(10, 1);
+        SeenLand x = Due.flatWithHouse(10, 1);
         due.is("flat", x.sight(0), EVERY);
         x.cell(12, 0, 1);
         due.is("behind a top as high as the eye", x.sight(0), 8191);
@@ -39,17 +33,17 @@ public final class SightsTest {
         due.is("both walled", x.sight(0), 1024);
         due.is("sight(-1)", x.sight(-1), Due.BEYOND);
         due.is("sight(1)", x.sight(1), Due.BEYOND);
-        due.is("at the west end", flatWithHouse(0, 40).sight(0), EVERY);
-        due.is("at the east end", flatWithHouse(23, 40).sight(0), EVERY);
+        due.is("at the west end", Due.flatWithHouse(0, 40).sight(0), EVERY);
+        due.is("at the east end", Due.flatWithHouse(23, 40).sight(0), EVERY);
     }
 
     private static void promise12Lines() {
         due.begin("promise 12, lines");
-        due.is("fractions are not cut", flatWithHouse(0, 10).sight(0), EVERY);
-        SeenLand x = flatWithHouse(0, 2);
+        due.is("fractions are not cut", Due.flatWithHouse(0, 10).sight(0), EVERY);
+        SeenLand x = Due.flatWithHouse(0, 2);
         x.cell(1, 0, 1);
         due.is("on one line", x.sight(0), EVERY - 4);
-        SeenLand mirrored = flatWithHouse(23, 2);
+        SeenLand mirrored = Due.flatWithHouse(23, 2);
         mirrored.cell(22, 0, 1);
         due.is("on one line, to the west", mirrored.sight(0), EVERY - (1 << 21));
         x.set(1, 3);
@@ -69,7 +63,7 @@ public final class SightsTest {
 
     private static void promise13() {
         due.begin("promise 13");
-        SeenLand x = flatWithHouse(10, 1);
+        SeenLand x = Due.flatWithHouse(10, 1);
         x.cell(12, 0, 1);
         due.is("sees(0, 12)", x.sees(0, 12), 1);
         due.is("sees(0, 13)", x.sees(0, 13), 0);
@@ -85,7 +79,7 @@ public final class SightsTest {
 
     private static void promise14() {
         due.begin("promise 14");
-        SeenLand x = flatWithHouse(10, 1);
+        SeenLand x = Due.flatWithHouse(10, 1);
         x.house(20, 1);
         x.windows(1, 0);
         due.is("seenBy(20)", x.seenBy(20), 3);
@@ -98,7 +92,7 @@ public final class SightsTest {
 
     private static void promise15() {
         due.begin("promise 15");
-        SeenLand x = flatWithHouse(10, 1);
+        SeenLand x = Due.flatWithHouse(10, 1);
         x.house(20, 1);
         x.house(10, 5);
         due.is("neighbours(0)", x.neighbours(0), 6);
@@ -111,7 +105,7 @@ public final class SightsTest {
 
     private static void promise16() {
         due.begin("promise 16");
-        SeenLand x = flatWithHouse(10, 1);
+        SeenLand x = Due.flatWithHouse(10, 1);
         x.cell(12, 0, 5);
         x.cell(13, 0, 9);
         due.is("behind both", x.hidden(0, 20), 12);

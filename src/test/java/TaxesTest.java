@@ -13,15 +13,9 @@ public final class TaxesTest {
         due.end();
     }
 
-    private static SeenLand flatWithHouse(int cell, int floor) {
-        SeenLand x = new SeenLand();
-        x.house(cell, floor);
-        return x;
-    }
-
     private static void promise17() {
         due.begin("promise 17");
-        SeenLand x = flatWithHouse(10, 1);
+        SeenLand x = Due.flatWithHouse(10, 1);
         due.is("flat", x.tax(0), 23);
         x.law(1, 7);
         due.is("rate 7, cut", x.tax(0), 16);
@@ -53,7 +47,7 @@ public final class TaxesTest {
 
     /** A hill of height 10 next to the house: floor 11 sees cell 23 over it, floor 21 cell 2, too. */
     private static SeenLand byAHill(int floor) {
-        SeenLand x = flatWithHouse(0, floor);
+        SeenLand x = Due.flatWithHouse(0, floor);
         x.cell(1, 0, 10);
         return x;
     }
@@ -65,7 +59,7 @@ public final class TaxesTest {
         due.is("floor stays", x.houseOf(0, 1), 30);
         due.is("cheapest(1)", x.cheapest(1), Due.BEYOND);
         due.is("cheapest(-1)", x.cheapest(-1), Due.BEYOND);
-        due.is("flat", flatWithHouse(5, 40).cheapest(0), 1);
+        due.is("flat", Due.flatWithHouse(5, 40).cheapest(0), 1);
     }
 
     private static void promise20() {
@@ -87,7 +81,7 @@ public final class TaxesTest {
 
     private static void promise21() {
         due.begin("promise 21");
-        SeenLand x = flatWithHouse(10, 1);
+        SeenLand x = Due.flatWithHouse(10, 1);
         x.windows(0, 0);
         due.is("to the west", x.wall(0, 5), 1);
         due.is("to the east", x.wall(0, 15), 2);
