@@ -24,6 +24,9 @@ public final class AgainstPlainTest {
         "rate", "to", "high", "age", "floor", "blind", "west", "east", ";", "lands", "T", "\t", "\u00e9"};
     private static final int[] STRANGE = {-1, -2, 24, 41, 61, 100, 121, 100000, Integer.MIN_VALUE, Integer.MAX_VALUE, 7, 8};
 
+    /** What is promised of an object ends there. */
+    private static final int MOST_CALLS = 512;
+
     private final Random chance;
     private final SeenLand x = new SeenLand();
     private final PlainLand plain = new PlainLand();
@@ -65,7 +68,7 @@ public final class AgainstPlainTest {
                 ask("hold", upTo(9), upTo(23));
             }
         }
-        while (calls < 470) {
+        while (calls < MOST_CALLS) {
             if (chance.nextInt(40) == 0) {
                 tellText(1 + chance.nextInt(5), chance.nextInt(3));
             } else if (chance.nextInt(60) == 0) {
@@ -82,6 +85,9 @@ public final class AgainstPlainTest {
     }
 
     private void ask(String name, int... arguments) throws ReflectiveOperationException {
+        if (calls >= MOST_CALLS) {
+            return;
+        }
         Class<?>[] types = new Class<?>[arguments.length];
         Object[] boxes = new Object[arguments.length];
         StringBuilder call = new StringBuilder("call ").append(++calls).append(": ").append(name).append('(');
