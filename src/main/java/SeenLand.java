@@ -18,8 +18,7 @@ public final class SeenLand {
     private final Land trial = new Land();
     private final Land kept = new Land();
     private boolean isKept = false;
-    private final Tape tape = new Tape();
-    private final TextReader reader = new TextReader(tape);
+    private final TextReader reader = new TextReader();
     private final Sheets sheets = new Sheets();
     private final int[] told = new int[SIZE + 1];
     /** A number for each house, used again by every call that needs such a row. */
@@ -543,18 +542,18 @@ public final class SeenLand {
         if (!isWithin(n, 1, 4)) {
             return tell(BEYOND);
         }
-        if (!tape.hasRoomFor(n)) {
+        if (!reader.tape.hasRoomFor(n)) {
             return tell(FULL);
         }
         for (int i = n - 1; i >= 0; i--) {
-            tape.append(bytes >>> (8 * i));
+            reader.tape.append(bytes >>> (8 * i));
         }
-        return tape.size;
+        return reader.tape.size;
     }
 
     public int wipe() {
-        int had = tape.size;
-        tape.size = 0;
+        int had = reader.tape.size;
+        reader.tape.size = 0;
         return had;
     }
 
@@ -564,7 +563,7 @@ public final class SeenLand {
         if (items >= 0) {
             land.takeAll(trial);
         }
-        tape.size = 0;
+        reader.tape.size = 0;
         return items;
     }
 
@@ -709,7 +708,7 @@ public final class SeenLand {
             case 3:
                 return Integer.bitCount(land.allSight());
             case 4:
-                return tape.size;
+                return reader.tape.size;
             case 5:
                 return land.z;
             case 6:
@@ -1162,11 +1161,7 @@ public final class SeenLand {
         private static final int WRONG = -2;
         private static final int UNTOLD = -1;
 
-        private final Tape tape;
-
-        private TextReader(Tape tape) {
-            this.tape = tape;
-        }
+        private final Tape tape = new Tape();
 
         private int readInto(Land land) {
             tape.rewind();

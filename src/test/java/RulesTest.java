@@ -1,9 +1,12 @@
 import java.io.IOException;
 import java.lang.reflect.Constructor;
+import java.lang.reflect.Field;
 import java.lang.reflect.Method;
 import java.lang.reflect.Modifier;
 import java.nio.file.Files;
 import java.nio.file.Path;
+import java.util.ArrayList;
+import java.util.List;
 import java.util.Set;
 import java.util.TreeSet;
 import java.util.regex.Matcher;
@@ -23,7 +26,9 @@ public final class RulesTest {
         face();
         String source = Files.readString(Path.of("src/main/java/SeenLand.java"));
         words(source);
+        measures(source);
         rowsAreMadeOnce(source);
+        constructorsHandOutNothing(source);
         due.end();
     }
 
@@ -59,7 +64,7 @@ public final class RulesTest {
         due.holds("one public constructor", constructors.length == 1
             && constructors[0].getModifiers() == Modifier.PUBLIC && constructors[0].getParameterCount() == 0);
         due.holds("public and final", SeenLand.class.getModifiers() == (Modifier.PUBLIC | Modifier.FINAL));
-        for (java.lang.reflect.Field f : SeenLand.class.getDeclaredFields()) {
+        for (Field f : SeenLand.class.getDeclaredFields()) {
             due.holds(f + " is private", Modifier.isPrivate(f.getModifiers()));
         }
     }
@@ -88,6 +93,36 @@ public final class RulesTest {
         }
     }
 
+    private static void measures(String source) {
+        due.begin("rule 11");
+        List<Class<?>> classes = new ArrayList<>(List.of(SeenLand.class.getDeclaredClasses()));
+        classes.add(SeenLand.class);
+        due.holds("at most twelve classes", classes.size() <= 12);
+        for (Class<?> each : classes) {
+            int fields = 0;
+            for (Field f : each.getDeclaredFields()) {
+                fields += Modifier.isStatic(f.getModifiers()) ? 0 : 1;
+            }
+            due.holds(each + " has " + fields + " fields", fields <= 20);
+            for (Method m : each.getDeclaredMethods()) {
+                due.holds(m + " takes at most seven", m.getParameterCount() <= 7);
+            }
+        }
+        methodsAreShort(source);
+    }
+
+    private static void methodsAreShort(String source) {
+        String head = "^( {4}| {8})(?:public|private) (?!.*\\bclass\\b)([^;=\n]*\\)) \\{\n";
+        Matcher methods = Pattern.compile("(?m)" + head + "(?s:.*?)\\1\\}\n").matcher(source);
+        int found = 0;
+        while (methods.find()) {
+            found++;
+            long lines = methods.group().lines().count();
+            due.holds(methods.group(2) + " has " + lines + " lines", lines <= 60);
+        }
+        due.holds("more methods than the face has, not " + found, found > FACE.length);
+    }
+
     /** Calls make nothing, so that a run of any length stays small: rows are made with the object alone. */
     private static void rowsAreMadeOnce(String source) {
         due.begin("rule 12");
@@ -95,5 +130,15 @@ public final class RulesTest {
             due.holds("made outside a field: " + line.trim(),
                 !line.contains("new ") || line.trim().startsWith("private final "));
         }
+    }
+
+    /** What is made gets no argument, so no part of an object that isn't whole yet is in other hands. */
+    private static void constructorsHandOutNothing(String source) {
+        due.begin("rule 12, its last sentence");
+        Matcher made = Pattern.compile("new [A-Z]\\w*\\(([^)]*)\\)").matcher(withoutComments(source));
+        while (made.find()) {
+            due.holds("handed out: " + made.group(), made.group(1).isBlank());
+        }
+        due.holds("this is handed out", !Pattern.compile("[(,] *this *[,)]").matcher(withoutComments(source)).find());
     }
 }
